@@ -309,7 +309,10 @@ public final class PromisesTest {
         none.place(0);
         none.cage(1);
         none.size(1, 0, 1000, 1);
+        none.move(0, 0);
         due.is("11 spent and none met", 3, none.run(1));
+        due.is("11 the plan by hand is gone", NONE, none.taken(0));
+        due.refuses("11 the plan by hand is gone", Due.STATE, () -> none.worth());
         due.is("11 none kept with just enough nodes", 2, none.run(2));
         due.is("11 nodes then", 2, none.nodes());
     }
@@ -329,6 +332,15 @@ public final class PromisesTest {
         due.is("11 result", 0, x.run(5000));
         due.is("11 worth", 45, x.worth());
         due.is("12 nodes with a vain hope", 12, x.nodes());
+        HarvestPlans even = farm(new int[] {1, 1}, new int[] {0, 0});
+        even.boat(1);
+        even.prices(1, 0);
+        due.is("11 result", 0, even.run(5000));
+        due.is("12 a hope that is just the best worth is not gone behind", 6, even.nodes());
+        even.order(1, 0, 20000, 0, 5);
+        due.is("11 result", 0, even.run(5000));
+        due.is("11 the first of one worth stays, whatever was hoped", 0, even.taken(0));
+        due.is("12 nodes of it", 9, even.nodes());
     }
 
     // 12

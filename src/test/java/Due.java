@@ -8,11 +8,26 @@ final class Due {
     static final Class<?> STATE = IllegalStateException.class;
 
     private final String test;
+    private String sentence = "";
     private int calls;
+    private int callsBefore;
     private int wrong;
 
     Due(String test) {
         this.test = test;
+    }
+
+    /** The answers from now on are those that a sentence of the document asks for. */
+    void of(String next) {
+        endSentence();
+        sentence = next;
+        callsBefore = calls;
+    }
+
+    private void endSentence() {
+        if (!sentence.isEmpty() && calls == callsBefore) {
+            tell("no answer was looked at");
+        }
     }
 
     void is(String what, long want, long got) {
@@ -42,7 +57,7 @@ final class Due {
     void tell(String text) {
         wrong++;
         if (wrong <= 50) {
-            System.out.println(test + ": " + text);
+            System.out.println(test + ": " + (sentence.isEmpty() ? "" : "\"" + sentence + "\": ") + text);
         }
     }
 
@@ -51,6 +66,7 @@ final class Due {
     }
 
     void end() {
+        endSentence();
         System.out.println(test + ": " + calls + " answers looked at, " + wrong + " wrong");
         if (wrong != 0 || calls == 0) {
             System.exit(1);

@@ -1,4 +1,4 @@
-/** The boundary cases of the promises 11 to 18, each under the document's words (and what of them is meant). */
+/** The boundary cases of the promises 11 to 18, each under the document's words. */
 public final class EdgesOfPlansTest {
     private static final int NONE = Farms.NONE;
     private static final int LOW = Farms.LOW;

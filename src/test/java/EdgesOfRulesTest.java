@@ -1,4 +1,4 @@
-/** The boundary cases of the four rules and of THE WORTH, each under the document's words (and what of them is meant). */
+/** The boundary cases of the four rules and of THE WORTH, each under the document's words. */
 public final class EdgesOfRulesTest {
     private static final int NONE = Farms.NONE;
 

@@ -1,4 +1,4 @@
-/** The boundary cases of THE SEARCH, THE HOPE and of a search that is SPENT, each under the document's words (and what of them is meant). */
+/** The boundary cases of THE SEARCH, THE HOPE and of a search that is SPENT, each under the document's words. */
 public final class EdgesOfSearchTest {
     private static final int NONE = Farms.NONE;
 
@@ -156,7 +156,7 @@ public final class EdgesOfSearchTest {
     }
 
     private static void goesOnAboveTheBest() {
-        due.of("It goes on behind a node to the next cage if its HOPE is above the WORTH of the best plan that was met");
+        due.of("if its HOPE is above the WORTH of the best plan that was met");
         int[] second = {9, 10, 11};
         int[] nodes = {6, 6, 9};
         int[] worths = {16, 16, 17};

@@ -1,4 +1,4 @@
-/** The boundary cases of the promises 1 to 10, each under the document's words (and what of them is meant). */
+/** The boundary cases of the promises 1 to 10, each under the document's words. */
 public final class EdgesOfWhatThereIsTest {
     private static final int NONE = Farms.NONE;
     private static final int LOW = Farms.LOW;

@@ -89,6 +89,7 @@ public final class EdgesOfPlansTest {
         // Place 0 holds nothing, so none is ever met and each of the 9 ways of the cages behind is gone.
         due.is("none held, more than 5000 nodes", 3, x.run(5000));
         due.is("nodes", 5000, x.nodes());
+        due.is("hope behind it", 1, x.hope());
         due.is("one fewer", 3, x.run(4999));
         due.is("nodes", 4999, x.nodes());
     }
